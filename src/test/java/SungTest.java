@@ -107,11 +107,12 @@ public final class SungTest {
         Check.same("three, the same and octaves apart", x.inOctaves(), 3);
         x.sing(3, 0);
         Check.same("all four", x.inOctaves(), 6);
+        x.setScale(0, 7);
         x.sing(3, 600);
         Check.same("half an octave is none", x.inOctaves(), 3);
         x.rest(1);
         Check.same("without a rung", x.inOctaves(), 1);
-        x.sing(1, 500);
+        x.sing(1, 1800);
         Check.same("two pairs", x.inOctaves(), 2);
         x.rest(1);
         x.rest(3);
