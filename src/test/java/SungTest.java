@@ -112,7 +112,8 @@ public final class SungTest {
         Check.same("half an octave is none", x.inOctaves(), 3);
         x.rest(1);
         Check.same("without a rung", x.inOctaves(), 1);
-        x.sing(1, 1800);
+        x.sing(3, 700);
+        x.sing(1, 1900);
         Check.same("two pairs", x.inOctaves(), 2);
         x.rest(1);
         x.rest(3);
