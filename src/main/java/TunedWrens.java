@@ -329,7 +329,7 @@ public final class TunedWrens {
 
     private int rungNotAbove(int pitch) {
         for (int rung = pitch - pitch % SEMITONE; rung >= 0; rung -= SEMITONE) {
-            if (isRung(rung)) {
+            if (stepAt(rung) != NONE) {
                 return rung;
             }
         }
@@ -338,7 +338,7 @@ public final class TunedWrens {
 
     private int rungAbove(int pitch) {
         for (int rung = pitch - pitch % SEMITONE + SEMITONE; rung <= TOP_PITCH; rung += SEMITONE) {
-            if (isRung(rung)) {
+            if (stepAt(rung) != NONE) {
                 return rung;
             }
         }
