@@ -1,11 +1,16 @@
+import java.io.IOException;
 import java.lang.reflect.Constructor;
 import java.lang.reflect.Field;
 import java.lang.reflect.Method;
 import java.lang.reflect.Modifier;
+import java.nio.file.Files;
+import java.nio.file.Path;
 import java.util.ArrayList;
 import java.util.Arrays;
 import java.util.List;
 import java.util.TreeSet;
+import java.util.regex.Matcher;
+import java.util.regex.Pattern;
 
 /** The public face is the document's, and nothing beside it can be seen. */
 public final class FaceTest {
@@ -37,12 +42,13 @@ public final class FaceTest {
         "int inOctaves 0 ",
     };
 
-    public static void main(String[] args) {
+    public static void main(String[] args) throws IOException {
         Check.holds("the class is public", Modifier.isPublic(TunedWrens.class.getModifiers()));
         Check.holds("the class is final", Modifier.isFinal(TunedWrens.class.getModifiers()));
         methods();
         constructors();
         fields();
+        textIsTheDocuments();
         Check.end();
     }
 
@@ -90,5 +96,27 @@ public final class FaceTest {
                 Check.holds(field + " is final", Modifier.isFinal(field.getModifiers()));
             }
         }
+    }
+
+    /** The headings and the calls stand in the class as the document has them, with the same names, in its order. */
+    private static void textIsTheDocuments() throws IOException {
+        String document = Files.readString(Path.of("../shared/DOC.md"));
+        String face = document.replaceAll("(?s).*```java(.*?)```.*", "$1").replace(";", " {");
+        Matcher ahead = Pattern.compile("Ahead of the calls `(\\w+)`.* says: (---- .*)\\.").matcher(document);
+        while (ahead.find()) {
+            face = face.replaceFirst("(?m)^(?=.* " + ahead.group(1) + "\\()", "    // " + ahead.group(2) + "\n");
+        }
+        String source = Files.readString(Path.of("src/main/java/TunedWrens.java"));
+        Check.alike("the text of the face", faceLines(source), faceLines(face));
+        Check.same("its headings", faceLines(face).split("// ---- ").length, 6);
+    }
+
+    private static String faceLines(String code) {
+        StringBuilder lines = new StringBuilder();
+        Matcher line = Pattern.compile("public [^{]*\\{|// ---- .*").matcher(code);
+        while (line.find()) {
+            lines.append(line.group().replaceAll("\\s+", " ")).append("\n");
+        }
+        return lines.toString();
     }
 }
